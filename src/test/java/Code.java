@@ -110,6 +110,18 @@ final class Code {
         return core;
     }
 
+    /** A core as above whose flags have come back from a frame; registers and PC are as told there. */
+    static NestedCore flagged(int flags, int... halves) {
+        NestedCore core = core(halves);
+        handler(core, 10, 512, bx(14));
+        core.rank(10, 0, true);
+        core.pend(10, true);
+        core.run(1);
+        core.set(1020, flags << 28);
+        core.run(1);
+        return core;
+    }
+
     /** Lets exception e be handled by halves at an address. */
     static void handler(NestedCore core, int e, int address, int... halves) {
         core.set(4 * e, address);
