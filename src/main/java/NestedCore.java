@@ -320,7 +320,7 @@ public final class NestedCore {
             case 3:
                 return withNumber(half);
             case 4:
-                return withRegister(half);
+                return half >> 10 == 16 ? combine(half) : copyOrBranch(half);
             case 6:
                 return move(half, half & 7, registers[half >> 3 & 7] + 4 * (half >> 6 & 31));
             case 9:
@@ -386,22 +386,6 @@ public final class NestedCore {
         return NONE;
     }
 
-    private int withRegister(int half) {
-        switch (half >> 8) {
-            case 0x40:
-            case 0x41:
-            case 0x42:
-            case 0x43:
-                return combine(half);
-            case 0x46:
-                return copyAny(half);
-            case 0x47:
-                return branchTo(half);
-            default:
-                return USAGE;
-        }
-    }
-
     private int combine(int half) {
         int at = half & 7;
         int x = registers[at];
@@ -443,6 +427,17 @@ public final class NestedCore {
         registers[at] = result;
         flags.ofResult(result);
         return NONE;
+    }
+
+    private int copyOrBranch(int half) {
+        switch (half >> 8) {
+            case 0x46:
+                return copyAny(half);
+            case 0x47:
+                return branchTo(half);
+            default:
+                return USAGE;
+        }
     }
 
     private int copyAny(int half) {
@@ -566,16 +561,12 @@ public final class NestedCore {
                 exceptions.faults = false;
                 return NONE;
             case 0xB671:
-                turnFaultsOn();
+                if (exceptions.level() > -1) {
+                    exceptions.faults = true;
+                }
                 return NONE;
             default:
                 return USAGE;
-        }
-    }
-
-    private void turnFaultsOn() {
-        if (exceptions.level() > -1) {
-            exceptions.faults = true;
         }
     }
 

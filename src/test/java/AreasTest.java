@@ -13,6 +13,7 @@ public final class AreasTest {
         offForSizeZero(check);
         whatWasRefusedChangesNothing(check);
         severalWords(check);
+        eachWordByItsFirstByte(check);
         framesAreNotBarred(check);
         check.end();
     }
@@ -199,6 +200,19 @@ public final class AreasTest {
         check.same("a pop from a barred word", core.state(16 + BARRED), 5);
         check.same("R0 after it", core.register(0), 5);
         check.same("SP after it", core.register(13), 1012);
+    }
+
+    /** A pop of three words from 900 on, with one byte barred. */
+    private static void eachWordByItsFirstByte(Check check) {
+        for (int address = 896; address < 916; address++) {
+            NestedCore core = Code.core(Code.pop(7));
+            core.rank(BARRED, 0, true);
+            core.put(13, 900);
+            core.area(3, address, 1, 0, false);
+            core.run(1);
+            boolean barred = address == 900 || address == 904 || address == 908;
+            check.same("a pop with byte " + address + " barred", core.state(16 + BARRED), barred ? 5 : 4);
+        }
     }
 
     private static void framesAreNotBarred(Check check) {

@@ -176,6 +176,11 @@ public final class FaultsTest {
         check.same("PC behind memory", core.register(15), 1024);
         core.run(1);
         check.same("BUS behind memory", core.state(21), 5);
+        NestedCore first = Code.core();
+        first.set(0, Code.mov(0, 4));
+        first.put(15, 0);
+        first.run(1);
+        check.same("the first half", first.register(0), 4);
     }
 
     private static void busBeforeArea(Check check) {

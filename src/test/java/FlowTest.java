@@ -114,6 +114,11 @@ public final class FlowTest {
         core.put(13, Integer.MIN_VALUE);
         core.run(1);
         check.same("SP wraps", core.register(13), Integer.MIN_VALUE - 508);
+        NestedCore one = Code.core(Code.spPlus(1), Code.spLess(1));
+        one.run(1);
+        check.same("SP plus 4", one.register(13), 1028);
+        one.run(1);
+        check.same("SP less 4", one.register(13), 1024);
     }
 
     private static void pushAndPop(Check check) {
