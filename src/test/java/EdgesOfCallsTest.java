@@ -349,7 +349,7 @@ public final class EdgesOfCallsTest {
         int[][] none = {
             {0, 1025}, {1, 1024}, {1020, 5}, {1023, 2}, {1024, 1}, {1025, 1}, {-1, 1}, {-1, 2}, {-1, 1025}, {-4, 8},
             {0, -1}, {4, -4}, {1024, -1}, {1025, -1}, {2048, -1024}, {0, MIN}, {-1, MIN}, {MIN, MIN}, {MIN, MAX},
-            {MAX, MAX}, {MAX, 1}, {1, MAX}, {MIN, 1}, {MIN, 0}, {MAX, MIN},
+            {MAX, MAX}, {MAX, 1}, {1, MAX}, {MIN, 1}, {MIN, 0}, {-1, 0}, {1025, 0}, {MAX, MIN},
         };
         for (int[] row : none) {
             areaRefused(check, 2, row[0], row[1], 2);
